@@ -2,7 +2,7 @@ import java.util.Random;
 
 /** Long runs of calls, the same each time, on the program and on PlainModel: the answers must be the same. */
 public final class ModelTest {
-    private static final int RUNS = 400;
+    private static final int RUNS = 1000;
     private static final int CALLS = 512;
 
     private final Checks checks;

@@ -23,6 +23,7 @@ public final class PromiseTest {
         hoursAshore();
         hoursAtMost();
         undo();
+        undoAmongMany();
         undoneAtMost();
         anchor();
         ship();
@@ -420,6 +421,31 @@ public final class PromiseTest {
         due("undo", x.undo(), 0);
     }
 
+    private static void undoAmongMany() {
+        String one = "s0,0,60,5,1,1,999;";
+        ChainLays x = laid("c1;c9;" + one.repeat(3) + "s1,5,1,1,1,9,10;s1,5,2,1,1,9,10;");
+        x.moor(4, 0, 19, 3);
+        due("two go down", x.hours(1, 20, 2), 1);
+        due("the fourth", x.ship(3, 5), 1);
+        due("the fifth is ashore", x.ship(4, 4), 1);
+        x.links(0, 0, 9);
+        due("undo links", x.undo(), 2);
+        due("ashore yet", x.ship(4, 4), 1);
+        due("none else", x.count(3), 1);
+        dueAnchor("dragged yet", x, 3, 0, new int[] {1, 6, 1});
+        due("undo hours", x.undo(), 1);
+        due("not ashore", x.ship(4, 4), 0);
+        dueAnchor("back", x, 3, 0, new int[] {1, 5, 1});
+        dueAnchor("its second", x, 4, 1, new int[] {0, 19, 3});
+        due("up again", x.hours(2, 20, 0), 0);
+        dueAnchor("first up", x, 4, 0, new int[] {1, 3, 2});
+        dueAnchor("second up", x, 4, 1, new int[] {0, 17, 3});
+        due("undo hours", x.undo(), 1);
+        dueAnchor("first back", x, 4, 0, new int[] {1, 5, 2});
+        dueAnchor("second back", x, 4, 1, new int[] {0, 19, 3});
+        due("not dragged", x.ship(4, 5), 0);
+    }
+
     private static void undoneAtMost() {
         ChainLays x = new ChainLays();
         for (int n = 1; n <= 9; n++) {
@@ -491,6 +517,14 @@ public final class PromiseTest {
         x.moor(0, 1, 0, 5);
         dueLie(x, 0, 1, 3, new int[] {4, 1, 40, 0, 20, 0});
         dueLie(x, 0, 1, 0, new int[] {2, 3, 30, 0, 20, 0});
+        // by PULL 100 nine LINKS rise 0, eleven 1, the next ones 2; RUNS 10, 9, 9
+        x = laid("c1;c2;s0,0,20,1,1,4,20;s1,0,25,1,1,4,20;");
+        dueLie(x, 0, 0, 100, new int[] {19, 1, 190, 0, 20, 0});
+        dueLie(x, 1, 0, 100, new int[] {25, 0, 234, 0, 20, 0});
+        // by PULL 9: RISES 1, 2, 3, 4; WEIGHT 5 by PULL 5: RISES 7, 9, RUNS 7, 4
+        x = laid("c1;c1;s0,0,4,1,1,4,20;s0,0,2,5,1,4,20;");
+        dueLie(x, 0, 0, 9, new int[] {4, 0, 36, 0, 20, 0});
+        dueLie(x, 1, 0, 5, new int[] {2, 0, 11, 0, 20, 0});
         // WEIGHT 2: RISES by PULL 3 are 6, 8, RUNS 8, 6
         x = laid("c1;c2;s0,0,9,2,1,4,20;");
         dueLie(x, 0, 0, 3, new int[] {2, 7, 84, 0, 20, 0});
@@ -589,6 +623,11 @@ public final class PromiseTest {
         x.moor(0, 0, 0, 1);
         due("cut up", x.wind(0, 3, 1), 0);
         due("by 4", x.wind(0, 2, 1), 1);
+        // an even PULL, 8, has 4 for its half
+        ChainLays even = laid("c1;c9;s0,0,1,1,1,2,25;");
+        even.moor(0, 0, 0, 1);
+        due("half of 8", even.wind(0, 4, 0), 8);
+        due("not cut up", even.wind(0, 4, 1), 1);
         // one of them by all of it, the other not even by half
         x.links(0, 1, 10);
         due("the second by all", x.wind(0, 3, 1), 1);
@@ -651,6 +690,10 @@ public final class PromiseTest {
         due("BAD ahead of NO", x.fewest(0, 21), BAD);
         // 400 of 400: the whole GRIP by no LIFT
         due("wants many", laid("c1;c1;s0,0,1,5,1,4,400;").fewest(0, 20), wanted(400, 5, 10));
+        due("wants all 60", laid("c14;c1;s0,0,1,1,1,1,100;").fewest(0, 20), wanted(100, 1, 140));
+        due("all 60", wanted(100, 1, 140), 60);
+        due("wants 61", laid("c16;c1;s0,0,1,1,1,1,90;").fewest(0, 19), NONE);
+        due("61", wanted(90, 1, 160), 61);
         due("wants more than there are", laid("c20;c1;s0,0,1,1,1,4,400;").fewest(0, 20), NONE);
     }
 
@@ -692,6 +735,7 @@ public final class PromiseTest {
         due("nine", x.close(1, 0), 9);
         due("links stay", x.anchor(1, 0, 2), 33);
         due("no change", x.count(6), 0);
+        due("one", laid(columns + "s0,0,1,1,1,4,20;s2,0,33,1,1,4,20;").close(1, 0), 1);
         due("too near the great one", x.close(0, 0), NONE);
         int[][] wrong = {{-1, 0}, {2, 0}, {0, -1}, {0, 21}, {FAR, 0}, {0, LOW}};
         for (int[] w : wrong) {
