@@ -666,8 +666,8 @@ public final class ChainLays {
         void layOut(Plan plan) {
             columns = plan.columns;
             System.arraycopy(plan.depths, 0, depths, 0, MOST_COLUMNS);
-            shipCount = plan.ships;
-            for (int i = 0; i < shipCount && i < MOST_SHIPS; i++) {
+            shipCount = Math.min(plan.ships, MOST_SHIPS);
+            for (int i = 0; i < shipCount; i++) {
                 ships[i].layOut(plan.numbers[i]);
             }
             hour = 0;

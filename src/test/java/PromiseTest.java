@@ -1,6 +1,6 @@
 /** Each promise of the document: ordinary inputs, the edges that it names, wrong inputs. Worked out by hand. */
 public final class PromiseTest {
-    private static final int BAD = -1, NO = -2, FULL = -3, NONE = -4;
+    private static final int BAD = Bays.BAD, NO = Bays.NO, FULL = Bays.FULL, NONE = Bays.NONE;
     private static final int FAR = Integer.MAX_VALUE, LOW = Integer.MIN_VALUE;
     /** One SHIP with a light chain on shallow ground; by PULL 9 three LINKS hold it, two do not. */
     private static final String SHALLOW = "c1;c1;s0,0,2,1,1,4,20;";
@@ -47,16 +47,11 @@ public final class PromiseTest {
 
     private static void tell(ChainLays x, String text) {
         x.wipe();
-        for (int i = 0; i < text.length(); i++) {
-            x.write(text.charAt(i));
-        }
+        Bays.write(x, text);
     }
 
     private static ChainLays laid(String text) {
-        ChainLays x = new ChainLays();
-        tell(x, text);
-        CHECKS.so("lay " + text, x.lay() > 0);
-        return x;
+        return Bays.laid(text);
     }
 
     private static void dueFault(String text, int want) {
@@ -176,27 +171,21 @@ public final class PromiseTest {
         String[] below = {"", "", "0", "0", "0", "0", "9"};
         String[] above = {"2", "20", "61", "6", "10", "10", "1000"};
         for (int i = 0; i < 7; i++) {
-            dueFault("c1;c1;" + ship(i, least[i]), NONE);
-            dueFault("c1;c1;" + ship(i, most[i]), NONE);
-            dueFault("c1;c1;" + ship(i, below[i]), 6);
-            dueFault("c1;c1;" + ship(i, above[i]), 6);
+            dueFault("c1;c1;" + Bays.ship(i, least[i]), NONE);
+            dueFault("c1;c1;" + Bays.ship(i, most[i]), NONE);
+            dueFault("c1;c1;" + Bays.ship(i, below[i]), 6);
+            dueFault("c1;c1;" + Bays.ship(i, above[i]), 6);
         }
-        dueFault("c1;" + ship(0, "1") + "c1;", 3);
-        dueFault("c1;" + ship(0, "0") + "c1;" + ship(0, "1"), NONE);
-        dueFault(ship(0, "0"), 0);
+        dueFault("c1;" + Bays.ship(0, "1") + "c1;", 3);
+        dueFault("c1;" + Bays.ship(0, "0") + "c1;" + Bays.ship(0, "1"), NONE);
+        dueFault(Bays.ship(0, "0"), 0);
         dueFault("c1;c1;s00,019,060,005,009,009,010;", NONE);
-    }
-
-    private static String ship(int number, String instead) {
-        String[] numbers = {"0", "0", "2", "1", "1", "4", "20"};
-        numbers[number] = instead;
-        return "s" + String.join(",", numbers) + ";";
     }
 
     private static void faultOfTooMany() {
         dueFault("c1;".repeat(20), NONE);
         dueFault("c1;".repeat(21), 60);
-        String one = ship(0, "0");
+        String one = Bays.ship(0, "0");
         dueFault("c1;" + one.repeat(5), NONE);
         dueFault("c1;" + one.repeat(6), 3 + 5 * one.length());
         dueFault("c1;" + one.repeat(5) + "c1;", NONE);
@@ -206,11 +195,11 @@ public final class PromiseTest {
         ChainLays x = new ChainLays();
         x.moor(1, 0, 0, 7);
         x.hours(3, 20, 1);
-        tell(x, "c1;" + ship(0, "0"));
+        tell(x, "c1;" + Bays.ship(0, "0"));
         due("lay one column", x.lay(), NO);
         tell(x, "c1;c1;");
         due("lay no ship", x.lay(), NO);
-        tell(x, "c1;c1;" + ship(0, "0") + "c");
+        tell(x, "c1;c1;" + Bays.ship(0, "0") + "c");
         due("lay with a fault", x.lay(), NO);
         due("columns stay", x.count(0), 10);
         due("second stays", x.count(4), 1);
