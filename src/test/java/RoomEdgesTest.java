@@ -627,31 +627,22 @@ public final class RoomEdgesTest {
     }
 
     private static void ofNoMore() {
-        ChainLays x = fiveMoored();
-        x.hours(24, 20, LEFT);
-        x.wipe();
-        Bays.write(x, "c9;c9;s0,0" + LIGHT);
-        due("lay", x.lay(), 1);
-        int[] due = {2, 1, 0, 0, 0, 1, 0};
-        for (int what = 0; what < due.length; what++) {
-            due("count " + what, x.count(what), due[what]);
+        ChainLays ashore = fiveMoored();
+        ashore.hours(24, 20, LEFT);
+        // whether those ahead of LAID are ASHORE or not, they are no more
+        for (ChainLays x : new ChainLays[] {fiveMoored(), ashore}) {
+            x.wipe();
+            Bays.write(x, "c9;c9;s0,0" + LIGHT);
+            due("lay", x.lay(), 1);
+            int[] due = {2, 1, 0, 0, 0, 1, 0};
+            for (int what = 0; what < due.length; what++) {
+                due("count " + what, x.count(what), due[what]);
+            }
+            due("hold", x.all(0, 0), 1);
+            due("pairs", x.all(0, 1), 0);
+            due("close", x.close(0, 0), 60);
+            due("ashore", x.hours(1, 20, LEFT), 1);
         }
-        due("hold", x.all(0, 0), 1);
-        due("pairs", x.all(0, 1), 0);
-        due("close", x.close(0, 0), 60);
-        due("ashore", x.hours(1, 20, LEFT), 1);
-        // those that came ASHORE ahead of LAID, and those that did not
-        ChainLays y = fiveMoored();
-        y.wipe();
-        Bays.write(y, "c9;c9;s0,0" + LIGHT);
-        due("lay", y.lay(), 1);
-        for (int what = 0; what < due.length; what++) {
-            due("count " + what, y.count(what), due[what]);
-        }
-        due("hold", y.all(0, 0), 1);
-        due("pairs", y.all(0, 1), 0);
-        due("close", y.close(0, 0), 60);
-        due("ashore", y.hours(1, 20, LEFT), 1);
     }
 
     private static void countsAshore() {
